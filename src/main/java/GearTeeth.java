@@ -16,6 +16,7 @@ public final class GearTeeth {
   private static final int NO_FAILURE = -15;
   private static final int NO_SHIFT = -4000;
   private static final int RULE_FAULT = -100;
+  private static final int TEXT_FAULT = -1000;
   /** Goes with refusals of calls whose answers may be below 0 themselves. */
   private static final int FAR_BELOW = -1000000000;
 
@@ -37,6 +38,8 @@ public final class GearTeeth {
   private static final int MOST_TEETH = 99;
   private static final int PLANETS = 12;
   private static final int ROUNDS = 200;
+  private static final int ROUNDS_AT_ONCE = 100;
+  private static final int GREATEST_MARK = 62;
   private static final int GREATEST_WEAR_LOAD = 999;
   private static final int GREATEST_LOAD = 9999;
   private static final int TONES = 8;
@@ -80,14 +83,14 @@ public final class GearTeeth {
     }
     int statements = textReader.countStatements(shelf.elements, shelf.size);
     if (textReader.stuck) {
-      return -1000 - textReader.at;
+      return TEXT_FAULT - textReader.at;
     }
     trial.takeFrom(plant);
     textReader.startOn(shelf.elements, shelf.size);
     for (int i = 0; i < statements; i++) {
       textReader.readStatement();
       if (!trial.does(textReader)) {
-        return -2000 - textReader.letterPlace;
+        return 2 * TEXT_FAULT - textReader.letterPlace;
       }
     }
     plant.takeFrom(trial);
@@ -264,7 +267,7 @@ public final class GearTeeth {
 
   /** Promise 18: n ROUNDS of WEAR by a LOAD; EVEN then. */
   public int wear(int mesh, int load, int n) {
-    if (!isMesh(mesh) || !isWearLoad(load) || !isWithin(n, 1, 100)) {
+    if (!isMesh(mesh) || !isWearLoad(load) || !isWithin(n, 1, ROUNDS_AT_ONCE)) {
       return NO_SUCH;
     }
     rollAsItIs(mesh);
@@ -277,7 +280,7 @@ public final class GearTeeth {
 
   /** Promise 19: the first ROUND behind which EVEN is MARK or more. */
   public int until(int mesh, int load, int mark) {
-    if (!isMesh(mesh) || !isWearLoad(load) || !isWithin(mark, 1, 62)) {
+    if (!isMesh(mesh) || !isWearLoad(load) || !isWithin(mark, 1, GREATEST_MARK)) {
       return NO_SUCH;
     }
     rollSpares(mesh);
@@ -452,7 +455,7 @@ public final class GearTeeth {
     int best = NO_SHIFT;
     int least = WIDEST_ROOM + 1;
     for (int i = 0; i <= 2 * GREATEST_SHIFT; i++) {
-      // 0, 1, -1, 2, -2, ..: so the first of several is the one that is wanted
+      // in this order, 0, 1, -1, 2, -2, .., the first of several is the one that is wanted
       int shift = i % 2 == 1 ? (i + 1) / 2 : -(i / 2);
       spareA.cutBy(shelves[d].elements, shift, n);
       rolling.measure();
@@ -478,7 +481,7 @@ public final class GearTeeth {
       spareA.cutBy(shelves[d].elements, shift, n);
       if (spareA.hasFlankOf(plant.gears[gear])) {
         if (found == i) {
-          return shift + 8;
+          return shift + GREATEST_SHIFT;
         }
         found++;
       }

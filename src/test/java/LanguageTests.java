@@ -26,7 +26,8 @@ public final class LanguageTests {
       "int row(int,int,int)", "int put(int,int,int)", "long element(int,int)", "int copy(int,int,int,int,int)",
       "int weight(int)", "int toss(int)"};
   private static final String[] FORBIDDEN = {"->", "::", "\\bsynchronized\\b", "\\bassert\\b", "\\bfinally\\b",
-      "\\w+Exact\\b", "\\bstatic \\{", "\\bpackage\\b", "\\bfloat\\b", "\\bdouble\\b", "\\bObject\\b", "\\bSystem\\.(?!arraycopy)",
+      "\\w+Exact\\b", "\\bstatic \\{", "\\bpackage\\b", "\\bfloat\\b", "\\bdouble\\b", "\\bObject\\b",
+      "\\bSystem\\.(?!arraycopy)",
       "\\bThrowable\\b", "\\bcatch \\((?!IllegalStateException)", "\\bvar\\b", "\\.\\.\\.", "@", "\\bwhile \\(true\\)"};
 
   public static void main(String[] args) throws IOException {

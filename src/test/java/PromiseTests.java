@@ -8,41 +8,44 @@ public final class PromiseTests {
   private static final int LOW = Integer.MIN_VALUE;
   private static final int HIGH = Integer.MAX_VALUE;
 
+  /** The numbers are those of the promises. */
   public static void main(String[] args) {
-    newObject();
-    textsThatAreRead();
-    textsWithFaultsOfKindOne();
-    textsWithFaultsOfKindTwo();
-    textsRoom();
-    textRefusals();
-    gears();
-    widthsAndMeshes();
-    locked();
-    speeds();
-    hunts();
-    planets();
-    cutting();
-    cutRefusals();
-    rolling();
-    rooms();
-    wearing();
-    tones();
-    loads();
-    ruleFaults();
-    rulesKept();
-    rulesHold();
-    watching();
-    ears();
-    bestShifts();
-    readBacks();
-    images();
-    counts();
-    keeping();
-    rows();
-    elements();
-    copies();
-    weights();
-    tosses();
+    newObject(); // 1
+    textsThatAreRead(); // 2
+    textsWithFaultsOfKindOne(); // 2
+    textsWithFaultsOfKindTwo(); // 2
+    textsRoom(); // 2
+    textRefusals(); // 2
+    gears(); // 3
+    widthsAndMeshes(); // 4, 5
+    locked(); // 6
+    speeds(); // 7
+    hunts(); // 8
+    planets(); // 9, 10
+    cutting(); // 11
+    cutRefusals(); // 11
+    rolling(); // 12 to 16
+    oneTurnIsOff(); // 12 to 16
+    rollingOfTwo(); // 12 to 16, 21
+    rooms(); // 17
+    wearing(); // 18, 19
+    tones(); // 20, 21
+    loads(); // 22 to 26
+    ruleFaults(); // 27, 28
+    rulesKept(); // 28
+    rulesHold(); // 29
+    watching(); // 30
+    ears(); // 31
+    bestShifts(); // 32
+    readBacks(); // 33
+    images(); // 34, 35
+    counts(); // 36
+    keeping(); // 37
+    rows(); // 38, 39
+    elements(); // 40
+    copies(); // 41
+    weights(); // 42
+    tosses(); // 43
     Check.end();
   }
 
@@ -234,6 +237,10 @@ public final class PromiseTests {
     due("locked, wrong", x.speed(8, 1), FAR - 1);
     due("locked: turned", x.count(6), 0);
     String far = "g0 99 0;g0 4 1;g0 97 1;g0 4 2;g0 99 2;g0 4 3;g0 97 3;g0 4 4;g0 99 4;g0 5 5;";
+    GearTeeth row = Check.plant("g0 4 0;g0 5 1;g0 6 2;g0 7 3;g0 8 4;g0 9 5;g0 10 6;g0 12 7;");
+    due("told from the far end on", Check.say(row, "m6 7;m5 6;m4 5;m3 4;m2 3;m1 2;m0 1;"), 7);
+    due("the far end, above", row.speed(7, 0), -1);
+    due("the far end, below", row.speed(7, 1), 3);
     GearTeeth y = Check.plant(far + "m0 1;m2 3;m4 5;m6 7;m8 9;");
     due("far, above", y.speed(5, 0), -99L * 97 * 99 * 97 * 99);
     due("far, below", y.speed(5, 1), 4L * 4 * 4 * 4 * 5);
@@ -255,8 +262,9 @@ public final class PromiseTests {
   private static void planets() {
     GearTeeth x = new GearTeeth();
     int[][] told = {{20, 60, 4, 20}, {20, 60, 5, 20}, {20, 60, 8, -4}, {20, 60, 3, -4}, {20, 61, 3, -4},
-        {4, 12, 1, 4}, {4, 10, 1, -4}, {4, 12, 4, 4}, {60, 20, 2, -4}, {99, 99, 1, -4}, {4, 98, 2, 47},
-        {4, 98, 3, 47}, {4, 98, 6, -4}, {90, 98, 4, 4}, {12, 24, 4, 6}, {12, 24, 6, 6}};
+        {4, 12, 1, 4}, {4, 10, 1, -4}, {4, 12, 4, 4}, {60, 20, 2, -4}, {99, 99, 1, -4},
+        {4, 98, 2, 47}, {4, 98, 3, 47}, {20, 28, 12, 4}, {20, 28, 11, -4}, {19, 29, 12, -4},
+        {4, 98, 6, -4}, {90, 98, 4, 4}, {12, 24, 4, 6}, {12, 24, 6, 6}};
     for (int[] t : told) {
       due("planets " + t[0] + " " + t[1] + " " + t[2], x.planets(t[0], t[1], t[2]), t[3]);
     }
@@ -264,7 +272,8 @@ public final class PromiseTests {
     for (int[] w : wrong) {
       due("planets, wrong", x.planets(w[0], w[1], w[2]), -1);
     }
-    int[][] most = {{20, 60, 5}, {60, 20, -4}, {20, 61, -4}, {4, 98, 3}, {12, 24, 6}, {90, 98, 4}, {92, 98, -4}, {88, 98, 6},
+    int[][] most = {{20, 28, 12}, {19, 29, 8}, {20, 60, 5}, {60, 20, -4}, {20, 61, -4},
+        {4, 98, 3}, {12, 24, 6}, {90, 98, 4}, {92, 98, -4}, {88, 98, 6},
         {3, 60, -1}, {20, 100, -1}, {100, 60, -1}, {20, 3, -1}};
     for (int[] t : most) {
       due("most " + t[0] + " " + t[1], x.most(t[0], t[1]), t[2]);
@@ -385,6 +394,55 @@ public final class PromiseTests {
     }
   }
 
+  /** One TURN has another OFF than all others: each TURN once the greatest, once the least. */
+  private static void oneTurnIsOff() {
+    for (int y = 0; y < 16; y++) {
+      GearTeeth x = bumps();
+      int turn = (y + 4) % 16;
+      int[] reaches = new int[16];
+      reaches[y] = 10;
+      Check.fill(x, 1, 0, reaches);
+      due("thin at " + y, x.cut(1, 1, 208), 21);
+      for (int t = 0; t < 16; t++) {
+        due("off " + y + " at " + t, x.off(0, t), t == turn ? 10 : t == (turn + 8) % 16 && y >= 8 ? 4 : 2);
+      }
+      due("even, one is the greatest", x.even(0), 8);
+      java.util.Arrays.fill(reaches, 10);
+      reaches[y] = 0;
+      Check.fill(x, 1, 0, reaches);
+      x.cut(1, 1, 208);
+      due("gap, one is the least", x.gap(0), y < 8 ? 4 : 2);
+      due("even, one is the least", x.even(0), 8);
+      x.room(0, 57);
+      due("jam at one", x.jam(0), turn);
+    }
+  }
+
+  /** Each call by itself, behind a call for another MESH. */
+  private static void rollingOfTwo() {
+    GearTeeth x = Check.plant("g0 9 0;g1 9 1;g0 9 2;m2 1;m0 1;d1 2 50;d0 1 55;");
+    Check.fill(x, 0, 0, BUMP);
+    x.cut(0, 0, 208);
+    x.cut(1, 0, 208);
+    int[][] told = {{-10, 0, 0, -10, 0, 1}, {5, 0, 7, -3, 8, 1}};
+    for (int what = 0; what < 6; what++) {
+      for (int mesh = 0; mesh < 2; mesh++) {
+        due("of mesh " + mesh + ", " + what, asked(x, mesh, what), told[mesh][what]);
+      }
+    }
+  }
+
+  private static int asked(GearTeeth x, int mesh, int what) {
+    switch (what) {
+      case 0: return x.off(mesh, 4);
+      case 1: return x.touch(mesh, 4);
+      case 2: return x.jam(mesh);
+      case 3: return x.gap(mesh);
+      case 4: return x.even(mesh);
+      default: return x.whine(mesh);
+    }
+  }
+
   private static void rooms() {
     GearTeeth x = Check.plant("g0 9 0;g1 9 1;m0 1;");
     due("room", x.room(0, 0), 62);
@@ -445,6 +503,17 @@ public final class PromiseTests {
     due("four times a turn", flat.whine(0), 4);
     due("loud", flat.loud(0, 4) > 0 ? 1 : 0, 1);
     due("silent", flat.loud(0, 3), 0);
+    int[] reaches = new int[16];
+    for (int k = 1; k <= 8; k *= 2) {
+      GearTeeth waves = bumps();
+      for (int y = 0; y < 16; y++) {
+        reaches[y] = y / (8 / k) % 2 == 0 ? 0 : 10;
+      }
+      Check.fill(waves, 1, 0, reaches);
+      waves.cut(1, 1, 208);
+      due("even, " + k + " times a turn", waves.even(0), 8);
+      due("whine, " + k + " times a turn", waves.whine(0), k);
+    }
   }
 
   private static void loads() {
@@ -498,7 +567,8 @@ public final class PromiseTests {
     String[] texts = {"", "e", "e>", "e>1", "e>1|", "e>01", "e>1234", "e>12345", "(e>1", "(e>1)", "(e>1))", "e>1)",
         "!", "!!e=1", "!(e=1)&!g<w", "e=1=2", "e+1-g<2+w-l", "x", "(e)", "(e+1)=2", "e>1 ", "e>1&&e>2", "e+>1",
         "((((((((e=1))))))))", "(((((((((e=1)))))))))", "!(!(!(!(!(!(!(!(e=1))))))))", "(e=1)(", "(e=1)+1",
-        "(e=1)&((e=1)|(e=1))", "1<2", "0<0", "00<0", "1>2!", "r=t-u", "e12", "1e", "-1<2", "(((((((((", "e=1|(e=2&g=3|t=4)"};
+        "(e=1)&((e=1)|(e=1))", "1<2", "0<0", "00<0", "1>2!", "r=t-u", "e12", "1e", "-1<2", "(((((((((",
+        "e=1|(e=2&g=3|t=4)"};
     int[] places = {0, 1, 2, -4, 4, 3, -4, 6, 4, -4, 5, 3,
         1, -4, -4, 3, -4, 0, 2, 4, 3, 4, 2,
         -4, 8, -4, 5, 5,
@@ -507,6 +577,8 @@ public final class PromiseTests {
       GearTeeth x = new GearTeeth();
       Check.write(x, 0, texts[i]);
       due("fault <" + texts[i] + ">", x.fault(0), places[i]);
+      x = new GearTeeth();
+      Check.write(x, 0, texts[i]);
       due("rule <" + texts[i] + ">", x.rule(0), places[i] == -4 ? 0 : -100 - places[i]);
       due("count", x.count(2), places[i] == -4 ? 1 : 0);
     }
@@ -673,6 +745,7 @@ public final class PromiseTests {
       due("best shift, room " + r[0], x.bestShift(0, 0, 2), r[1]);
     }
     due("nothing changes", x.gear(0, 5), 31);
+    bestOfSeveral();
     int[][] wrong = {{-1, 0, 1}, {1, 0, 1}, {0, -1, 1}, {0, 8, 1}, {0, 0, 0}, {0, 0, 33}, {0, 1, 0}};
     for (int[] w : wrong) {
       due("best shift, wrong", x.bestShift(w[0], w[1], w[2]), FAR - 1);
@@ -686,6 +759,21 @@ public final class PromiseTests {
     due("15", x.bestShift(0, 1, 1), FAR - 13);
     Check.fill(x, 1, 0, 0, 0, 0, 0, 0, 0, 0, 0, 0, 0, 0, 0, 0, 0, 0, 32);
     due("32", x.bestShift(0, 1, 1), FAR - 13);
+  }
+
+  /** EVEN is least with 8 and with -8: both are as near to 0, so it is the greater one. */
+  private static void bestOfSeveral() {
+    GearTeeth x = Check.plant("g0 9 0;g0 9 1;m0 1;");
+    Check.fill(x, 0, 0, 20, 27, 28, 21, 22, 18, 22, 10, 9, 1, 8, 20, 2, 11, 6, 28);
+    Check.fill(x, 1, 0, 8, 25, 2, 26, 17, 16, 19, 0, 27, 14, 20, 12, 20, 19, 11, 7);
+    x.cut(1, 1, 208);
+    due("the greater", x.bestShift(0, 0, 4), 8);
+    for (int shift = -8; shift <= 8; shift++) {
+      x.cut(0, 0, 408 + shift);
+      boolean least = shift == -8 || shift == 8;
+      due("even with " + shift, x.even(0) <= 17 ? 1 : 0, least ? 1 : 0);
+      due("no jam with " + shift, x.jam(0), -4);
+    }
   }
 
   private static void readBacks() {
@@ -742,6 +830,7 @@ public final class PromiseTests {
     due("restored flank", x.width(0, 3), 29);
     due("restored flank", x.width(1, 3), 29);
     due("restored pair", x.pushed(4), 4);
+    due("restored pair", x.pushed(5), 5);
     due("restored rule", x.holds(0, 0), 1);
     due("shelves stay", x.weight(2), 160);
     due("shelves stay", x.element(1, 2), '9');
