@@ -14,7 +14,7 @@ public final class FuzzTests {
 
   public static void main(String[] args) {
     Method[] calls = calls();
-    for (int seed = 0; seed < 300; seed++) {
+    for (int seed = 0; seed < 500; seed++) {
       run(calls, new Random(seed), seed);
     }
     Check.end();
@@ -30,9 +30,10 @@ public final class FuzzTests {
 
   private static void run(Method[] calls, Random random, int seed) {
     GearTeeth x = new GearTeeth();
-    for (int i = 0; i < 400; i++) {
-      if (random.nextInt(12) == 0) {
-        prepare(x, random);
+    // an object is used for at most 512 calls; preparing takes fewer than 50
+    for (int asked = 0; asked < 460; asked++) {
+      if (random.nextInt(20) == 0) {
+        asked += prepare(x, random);
       }
       Method call = calls[random.nextInt(calls.length)];
       Object[] numbers = new Object[call.getParameterCount()];
@@ -44,17 +45,20 @@ public final class FuzzTests {
     }
   }
 
-  private static void prepare(GearTeeth x, Random random) {
+  /** How many calls it took. */
+  private static int prepare(GearTeeth x, Random random) {
     int d = random.nextInt(8);
     if (random.nextBoolean()) {
-      Check.write(x, d, TEXTS[random.nextInt(TEXTS.length)]);
+      String text = TEXTS[random.nextInt(TEXTS.length)];
+      Check.write(x, d, text);
       x.text(d);
-    } else {
-      x.row(d, 0, random.nextBoolean() ? 16 : random.nextInt(121));
-      for (int i = 0; i < 16; i++) {
-        x.put(d, i, random.nextInt(2));
-      }
+      return text.length() + 2;
     }
+    x.row(d, 0, random.nextBoolean() ? 16 : random.nextInt(121));
+    for (int i = 0; i < 16; i++) {
+      x.put(d, i, random.nextInt(2));
+    }
+    return 17;
   }
 
   private static int number(Random random) {
