@@ -202,12 +202,9 @@ public final class CuttingBoundaryTests {
   /** "WIDTH (15 less y and t, modulo 16) of b": y of a and z of b meet at TURN y and z and 1, modulo 16. */
   private static void whichPlacesMeet() {
     for (int y = 0; y < 16; y++) {
-      GearTeeth x = two();
       for (int z = 0; z < 16; z++) {
-        if (z % 8 == 0) {
-          x = two();
-          Bench.flank(x, 0, Bench.bump(20, y, 28));
-        }
+        GearTeeth x = two();
+        Bench.flank(x, 0, Bench.bump(20, y, 28));
         Bench.flank(x, 1, Bench.bump(20, z, 28));
         for (int t = 0; t < 16; t++) {
           due("off, " + y + " and " + z + " at " + t, x.off(0, t), t == (y + z + 1) % 16 ? 6 : 14);

@@ -262,7 +262,8 @@ public final class EarBoundaryTests {
   /** What `cut`, `jam` and `even` tell of each SHIFT, one by one, on an object of its own. */
   private static void bestByTheWords() {
     int[][] cutters = {Bench.CUTTER, NO_REACH, {0, 25, 0, 0, 10, 0, 0, 0, 31, 0, 0, 0, 31, 0, 0, 0},
-        {3, 1, 1, 1, 0, 1, 3, 20, 1, 1, 2, 3, 3, 2, 20, 1}, {20, 27, 28, 21, 22, 18, 22, 10, 9, 1, 8, 20, 2, 11, 6, 28}};
+        {3, 1, 1, 1, 0, 1, 3, 20, 1, 1, 2, 3, 3, 2, 20, 1},
+        {20, 27, 28, 21, 22, 18, 22, 10, 9, 1, 8, 20, 2, 11, 6, 28}};
     int[] steps = {1, 2, 3, 5, 16, 32};
     for (int i = 0; i < cutters.length * steps.length * 3; i++) {
       GearTeeth x = two();

@@ -169,16 +169,16 @@ public final class RefusalTests {
     rich.leaves("cut, shorts ahead of no reaches", -12, x -> x.cut(1, SHORTS, 208));
     rich.leaves("cut, ints", -12, x -> x.cut(1, INTS, 208));
     rich.leaves("cut, no reaches", -13, x -> x.cut(1, TEXT, 208));
-    rowOfSixteen(1, 0, -12, -12);
-    rowOfSixteen(2, 0, -12, -12);
-    rowOfSixteen(0, 32, -13, -13);
-    rowOfSixteen(0, -1, -13, -13);
-    rowOfSixteen(0, 255, -13, -13);
+    rowOfSixteen(1, 0, -12);
+    rowOfSixteen(2, 0, -12);
+    rowOfSixteen(0, 32, -13);
+    rowOfSixteen(0, -1, -13);
+    rowOfSixteen(0, 255, -13);
     empty.leaves("cut none", -1, x -> x.cut(0, 0, 208));
   }
 
   /** All calls that take a cutter, with one element of a ROW that is no REACH, or that is of another SORT. */
-  private static void rowOfSixteen(int sort, int element, long due, long bestDue) {
+  private static void rowOfSixteen(int sort, int element, long due) {
     for (int i = 0; i < 16; i += 15) {
       int at = i;
       Bench asWritten = new Bench(() -> {
@@ -189,7 +189,7 @@ public final class RefusalTests {
       });
       String what = " sort " + sort + ", " + element + " at " + at;
       asWritten.leaves("cut," + what, due, x -> x.cut(1, CUTTER, 208));
-      asWritten.leaves("best shift," + what, FAR + bestDue, x -> x.bestShift(0, CUTTER, 2));
+      asWritten.leaves("best shift," + what, FAR + due, x -> x.bestShift(0, CUTTER, 2));
       asWritten.leaves("read back," + what, due, x -> x.readBack(1, CUTTER, 2, -1));
     }
   }
@@ -529,7 +529,8 @@ public final class RefusalTests {
         {17, 0, 0}, {0, 5, 0}, {-1, 0, 0}, {0, -1, 0}, {HIGH, 0, 1}, {0, HIGH, 1}, {0, 0, HIGH}, {1, 1, HIGH},
         {LOW, 0, 1}, {0, LOW, 1}, {0, 0, LOW}, {16, 4, -1}, {HIGH, HIGH, HIGH}, {LOW, LOW, LOW}};
     for (int[] n : noPlaces) {
-      rich.leaves("copy, no place " + n[0] + " " + n[1] + " " + n[2], -13, x -> x.copy(CUTTER, n[0], HEARD, n[1], n[2]));
+      String what = "copy, no place " + n[0] + " " + n[1] + " " + n[2];
+      rich.leaves(what, -13, x -> x.copy(CUTTER, n[0], HEARD, n[1], n[2]));
     }
     rich.leaves("copy, no place in itself", -13, x -> x.copy(SHORTS, 1, SHORTS, 0, 3));
     rich.leaves("copy none of them", 0, x -> x.copy(CUTTER, 16, HEARD, 4, 0));

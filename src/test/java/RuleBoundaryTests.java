@@ -69,7 +69,8 @@ public final class RuleBoundaryTests {
         boolean goesOn = known[1].indexOf(digit ? '9' : sign) >= 0;
         int fault = x.fault(0);
         if (goesOn) {
-          Check.holds("<" + text + "> and then <" + (char) sign + "> " + fault, fault == -4 || fault == text.length() + 1);
+          boolean goesFurther = fault == -4 || fault == text.length() + 1;
+          Check.holds("<" + text + "> and then <" + (char) sign + "> " + fault, goesFurther);
         } else {
           due("<" + text + "> and sign " + sign, fault, text.length());
         }

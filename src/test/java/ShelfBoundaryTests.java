@@ -182,8 +182,8 @@ public final class ShelfBoundaryTests {
 
   /** "what is put in keeps its lowest bits": 8, 16, 32 of them. */
   private static void lowestBits() {
-    long[][] told = {{0, 0, 0, 0}, {127, 127, 127, 127}, {128, -128, 128, 128}, {129, -127, 129, 129}, {255, -1, 255, 255},
-        {256, 0, 256, 256}, {-1, -1, -1, -1}, {-128, -128, -128, -128}, {-129, 127, -129, -129}, {-256, 0, -256, -256},
+    long[][] told = {{0, 0, 0, 0}, {127, 127, 127, 127}, {128, -128, 128, 128}, {129, -127, 129, 129},
+        {255, -1, 255, 255}, {256, 0, 256, 256}, {-1, -1, -1, -1}, {-128, -128, -128, -128}, {-129, 127, -129, -129}, {-256, 0, -256, -256},
         {32767, -1, 32767, 32767}, {32768, 0, -32768, 32768}, {32769, 1, -32767, 32769}, {65535, -1, -1, 65535},
         {65536, 0, 0, 65536}, {65537, 1, 1, 65537}, {-32768, 0, -32768, -32768}, {-32769, -1, 32767, -32769},
         {HIGH, -1, -1, HIGH}, {LOW, 0, 0, LOW}, {HIGH - 128, 127, -129, HIGH - 128}};
@@ -269,7 +269,8 @@ public final class ShelfBoundaryTests {
         due("one too many", x.copy(0, from, 0, to, n + 1), -13);
         due("from " + from + " to " + to, x.copy(0, from, 0, to, n), n);
         for (int i = 0; i < 6; i++) {
-          due("from " + from + " to " + to + ": " + i, x.element(0, i), i >= to && i < to + n ? i - to + from + 1 : i + 1);
+          boolean came = i >= to && i < to + n;
+          due("from " + from + " to " + to + ": " + i, x.element(0, i), came ? i - to + from + 1 : i + 1);
         }
       }
     }
@@ -291,7 +292,7 @@ public final class ShelfBoundaryTests {
     }
   }
 
-  /** "100, TEETH and HARD; of WHEELS and what is under them THIN more; of PLANETS twice all that; of RINGS TOP more". */
+  /** "100, TEETH and HARD; of WHEELS and what is under them THIN more; of PLANETS twice all that; of RINGS TOP". */
   private static void weights() {
     int[][] told = {{0, 4, 114}, {0, 99, 209}, {1, 4, 155}, {1, 99, 250}, {2, 4, 140}, {2, 99, 235}, {3, 4, 320},
         {3, 99, 510}, {4, 4, 145}, {4, 9, 150}, {4, 10, 152}, {4, 99, 249}};

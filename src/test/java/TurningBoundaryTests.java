@@ -45,7 +45,6 @@ public final class TurningBoundaryTests {
       due(text, Check.say(x, text) > 0 ? 1 : 0, 1);
     }
     free(x, 1);
-    due("two turn that don't hang on it", Check.say(x, "g0 3 0;"), -2000);
     due("now it hangs on it", Check.say(x, "m2 1;"), 1);
     speed(x, 1, -9, 10);
     speed(x, 7, -1, 1);

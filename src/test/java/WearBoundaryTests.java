@@ -53,7 +53,8 @@ public final class WearBoundaryTests {
     for (int[] known : LEAST_LOADS) {
       for (int place = 0; place < 2; place++) {
         String other = known[0] == 3 ? "g3 9 1;" : "g3 9 2;";
-        GearTeeth x = Check.plant("g" + known[0] + " " + known[1] + " 0;" + other + "m" + place + " " + (1 - place) + ";");
+        String mesh = "m" + place + " " + (1 - place) + ";";
+        GearTeeth x = Check.plant("g" + known[0] + " " + known[1] + " 0;" + other + mesh);
         int[] loads = {1, 9, 10, 50, known[2] - 10, known[2] - 1};
         for (int load : loads) {
           due("wear by " + load, x.wear(0, load, 1), 0);
