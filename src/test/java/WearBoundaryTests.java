@@ -22,6 +22,7 @@ public final class WearBoundaryTests {
     untilFallsAndRises();
     loudOfNoTone();
     loudIsCut();
+    loudJustBelowAWhole();
     whinesFirstOfSeveral();
     whinesByWhatIsTold();
     Check.end();
@@ -255,6 +256,21 @@ public final class WearBoundaryTests {
     for (int k = 1; k <= 8; k++) {
       due("one turn by 31, loud " + k, most.loud(0, k), louds[k - 1]);
     }
+  }
+
+  /** The squares make 1839999941 together, and 1351999970. */
+  private static void loudJustBelowAWhole() {
+    GearTeeth x = two(0, 1);
+    Check.fill(x, 1, 0, 31, 31, 31, 31, 31, 31, 17, 31, 31, 22, 27, 18, 31, 31, 31, 31);
+    x.cut(0, 1, 208);
+    Check.fill(x, 1, 0, 26, 28, 27, 25, 24, 31, 31, 31, 31, 31, 31, 31, 31, 31, 31, 31);
+    x.cut(1, 1, 108);
+    due("59 below 1840", x.loud(0, 1), 1839);
+    Check.fill(x, 1, 0, 31, 31, 15, 31, 31, 31, 31, 31, 1, 15, 31, 31, 31, 31, 31, 31);
+    x.cut(0, 1, 208);
+    Check.fill(x, 1, 0, 25, 31, 31, 24, 24, 24, 29, 31, 31, 31, 31, 31, 31, 31, 31, 31);
+    x.cut(1, 1, 108);
+    due("30 below 1352", x.loud(0, 3), 1351);
   }
 
   /** "the TONE 1 .. 8 that is loudest, the first of several". */
